@@ -1151,7 +1151,9 @@ public final class TwoGuilds {
 
         Law() {
             code = new int[MOST_BYTES];
-            begin(PAIR_KEY);
+            key = PAIR_KEY;
+            operands = 0;
+            length = 0;
         }
 
         void begin(int newKey) {
@@ -1277,7 +1279,10 @@ public final class TwoGuilds {
             bytes = new int[MOST_BYTES];
             length = 0;
             law = new Law();
-            begin(law);
+            fault = NO_FAULT;
+            sort = END;
+            start = 0;
+            end = 0;
         }
 
         void addBytes(int number) {
@@ -1333,8 +1338,7 @@ public final class TwoGuilds {
                     end++;
                 }
             }
-            boolean isWord = sort == LETTERS || sort == DIGITS;
-            boolean needsBlank = behindWord && isWord && start == from;
+            boolean needsBlank = behindWord && start == from && (sort == LETTERS || sort == DIGITS);
             boolean tooLong = sort == DIGITS && end - start > MOST_DIGITS;
             if (needsBlank || tooLong) {
                 refuse();
@@ -1358,18 +1362,18 @@ public final class TwoGuilds {
         }
 
         private void key() {
-            if (isWord("pair")) {
+            if (wordIs("pair")) {
                 law.begin(PAIR_KEY);
-            } else if (isWord("wear")) {
+            } else if (wordIs("wear")) {
                 law.begin(WEAR_KEY);
-            } else if (isWord("fine")) {
+            } else if (wordIs("fine")) {
                 law.begin(FINE_KEY);
             } else {
                 refuse();
             }
         }
 
-        private boolean isWord(String word) {
+        private boolean wordIs(String word) {
             if (sort != LETTERS || end - start != word.length()) {
                 return false;
             }

@@ -128,6 +128,8 @@ public final class RowsTest {
             x.sheet(0, 0, 3);
             x.lay(0, 3, 9);
             Tapes.text(x, "fine 6");
+            x.set(2, 4, 44);
+            x.set(2, 5, 1);
             x.tell(1);
             x.feed(0, 0, 0);
             DUE.is("42: back", x.back(), 2);
@@ -163,6 +165,10 @@ public final class RowsTest {
         DUE.is("42: numbers go on from THE IMAGE", Tapes.text(x, "wear 3"), 1);
         DUE.is("42: fine is of THE IMAGE", x.fine(), 1);
         DUE.is("42: another text of that number", x.textTold(1, 0), 1);
+        x.glove(0, 0, 0, 0);
+        x.loss(0);
+        x.days(1);
+        DUE.is("42: that is worked out by itself", x.told(0, 4), 3);
         x.keep();
         for (int i = 2; i < 14; i++) {
             Tapes.text(x, "fine 1+1");

@@ -108,6 +108,8 @@ public final class SheetsTest {
             DUE.is("32: PRICE of " + i, x.told(i, 3), due[i]);
         }
         DUE.is("32: none then", x.pour(0), 0);
+        put(x, 3, 0, 51);
+        DUE.is("32: the last sheet", x.pour(3), 1);
     }
 
     private static void reads() {

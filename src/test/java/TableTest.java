@@ -7,6 +7,8 @@ public final class TableTest {
         partner();
         adds();
         leaves();
+        leavesByEachSheet();
+        leavesBesideGlovesThatWere();
         DUE.end();
     }
 
@@ -121,6 +123,36 @@ public final class TableTest {
         tells(zero, 0);
         DUE.is("14: VALUE 0 is not more", zero.leaves(1), TwoGuilds.NONE);
         DUE.is("14: no gloves", emptyLeaves(), TwoGuilds.NONE);
+        TwoGuilds one = row(1, 0);
+        tells(one, 0);
+        DUE.is("14: VALUE 1 is more than none", one.leaves(1), 1);
+        TwoGuilds alike = row(30, 20, 40, 30);
+        tells(alike, 0, 3, 9, 9, 0);
+        DUE.is("14: as much is not more for the first", alike.leaves(1), 102);
+        alike.set(2, 3, 30);
+        tells(alike, 0, 3, 2, 1, 0);
+        DUE.is("14: as much is not more for the second", alike.leaves(1), TwoGuilds.NONE);
+    }
+
+    private static void leavesByEachSheet() {
+        TwoGuilds x = row(40, 30, 60, 80);
+        for (int sheet = 0; sheet < 4; sheet++) {
+            x.sheet(sheet, 0, 4);
+            x.mark(sheet, 0, 3);
+            DUE.is("14: sheet " + sheet, x.leaves(sheet), 102);
+            x.sheet(sheet, -1, 0);
+        }
+    }
+
+    private static void leavesBesideGlovesThatWere() {
+        TwoGuilds x = row(40, 30, 60, 80);
+        x.keep();
+        x.glove(0, 0, 5, 99);
+        x.glove(0, 1, 5, 99);
+        tells(x, 0, 5, 2, 1, 9, 9, 0);
+        DUE.is("14: all six", x.leaves(1), 104);
+        x.back();
+        DUE.is("14: one that is gone is no partner", x.leaves(1), 3);
     }
 
     private static int emptyLeaves() {

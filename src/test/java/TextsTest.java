@@ -67,6 +67,10 @@ public final class TextsTest {
         fault("  pai 1", 2);
         fault("pairs 1", 0);
         fault("Pair 1", 0);
+        fault("hair 1", 0);
+        fault("pain 1", 0);
+        fault("pairz 1", 0);
+        fault("pair9", 4);
         fault("1 pair", 0);
         fault("pair1", 4);
         fault("pair a b", 7);
@@ -176,6 +180,9 @@ public final class TextsTest {
         gives("(2<3)+5", 6);
         gives("5&7", 1);
         gives("5&0", 0);
+        gives("1&1", 1);
+        gives("0&5", 0);
+        gives("9|0", 1);
         gives("0|9", 1);
         gives("0|0", 0);
         gives("1|1&0", 1);
@@ -239,5 +246,7 @@ public final class TextsTest {
         DUE.is("29: one", x.why(1), 1);
         DUE.is("29: told last", x.why(2), 2);
         DUE.is("29: counts", x.fine(), 2);
+        DUE.is("27: a text behind one with a FAULT", Tapes.text(x, "pair 3"), 3);
+        DUE.is("29: counts", x.why(0), 3);
     }
 }

@@ -65,6 +65,7 @@ public final class WordsTest {
         x.worn(2, 4);
         x.worn(4, 0);
         DUE.is("23: told", x.sure(2), 4);
+        DUE.is("23: told", x.sure(4), 0);
         DUE.is("23: two are left", x.sure(1), TwoGuilds.NONE);
         x.worn(3, 2);
         DUE.is("23: one is left", x.sure(1), 1);
@@ -79,6 +80,7 @@ public final class WordsTest {
         DUE.is("24: the least of equals", x.better(0), 0);
         DUE.is("24: at worst", x.better(1), 24);
         x.worn(0, 0);
+        DUE.is("24: the next one", x.better(0), 1);
         x.worn(1, 3);
         DUE.is("24: what is told tells nothing more", x.better(0), 2);
         DUE.is("24: at worst", x.better(1), 2);
