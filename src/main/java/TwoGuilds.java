@@ -1259,7 +1259,10 @@ public final class TwoGuilds {
         private static final int SIGN = 3;
 
         private static final int OR = 0;
+        private static final int AND = 1;
         private static final int TEST = 2;
+        private static final int SUM = 3;
+        private static final int TERM = 4;
         private static final int PIECE = 5;
 
         private static final int NO_FAULT = -1;
@@ -1408,17 +1411,17 @@ public final class TwoGuilds {
                 case '|':
                     return OR;
                 case '&':
-                    return 1;
+                    return AND;
                 case '<':
                 case '=':
                 case '>':
                     return TEST;
                 case '+':
                 case '-':
-                    return 3;
+                    return SUM;
                 case '*':
                 case '/':
-                    return 4;
+                    return TERM;
                 default:
                     return -1;
             }
