@@ -65,6 +65,7 @@ public final class RowsTest {
         x.call("set", 0, 4, 99);
         x.call("set", 1, 5, 0);
         x.call("set", 2, 4, 44);
+        x.call("set", 2, 5, 1);
         x.call("forget");
         x.call("worn", 2, 2);
         x.call("worn", 0, 0);

@@ -14,11 +14,6 @@ final class Run {
     private static final int MOST_CALLS = 512;
     private static final Map<String, Method> METHODS = new HashMap<>();
 
-    private final Due due;
-    private final TwoGuilds x = new TwoGuilds();
-    private final List<String> names = new ArrayList<>();
-    private final List<int[]> arguments = new ArrayList<>();
-
     static {
         for (Method m : TwoGuilds.class.getMethods()) {
             if (m.getDeclaringClass() == TwoGuilds.class) {
@@ -26,6 +21,11 @@ final class Run {
             }
         }
     }
+
+    private final Due due;
+    private final TwoGuilds x = new TwoGuilds();
+    private final List<String> names = new ArrayList<>();
+    private final List<int[]> arguments = new ArrayList<>();
 
     Run(Due due) {
         this.due = due;
@@ -95,14 +95,11 @@ final class Run {
 
     // ---- what many tests do
 
+    /** The tape is this text, whatever it was. */
     void feed(String text) {
-        StringBuilder padded = new StringBuilder(text);
-        while (padded.length() % 12 != 0) {
-            padded.append(' ');
-        }
         call("trim", 0);
-        for (int i = 0; i < padded.length(); i += 12) {
-            call("feed", Tapes.number(padded, i), Tapes.number(padded, i + 4), Tapes.number(padded, i + 8));
+        for (int[] row : Tapes.fed(text)) {
+            call("feed", row);
         }
         call("trim", text.length());
     }
@@ -213,9 +210,10 @@ final class Run {
                 got = write(out, "item", 0, place);
             }
         }
-        for (int sheet = 1; sheet <= 3; sheet++) {
-            write(out, "copy", 0, 0, sheet, 0, 0);
-        }
+        // the sort of a row without places shows beside one of shorts alone
+        Run other = twin();
+        other.call("sheet", 0, 0, 0);
+        other.write(out, "copy", 3, 0, 0, 0, 0);
         call("sheet", 3, 0, 0);
         for (int sheet = 0; sheet <= 2; sheet++) {
             write(out, "copy", sheet, 0, 3, 0, 0);

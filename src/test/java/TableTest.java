@@ -161,6 +161,11 @@ public final class TableTest {
         x.is(104, "leaves", 1);
         x.call("back");
         x.is(3, "leaves", 1);
+        x.call("glove", 0, 1, 5, 99);
+        x.row(1, 0, 4, 2, 1, 9, 0);
+        x.is(203, "leaves", 1);
+        x.call("back");
+        x.is(3, "leaves", 1);
     }
 
     private static void firstTwo() {

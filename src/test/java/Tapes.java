@@ -1,23 +1,27 @@
-/** Brings written texts to the tape of an object. */
+/** Texts as the numbers that bring them to a tape. */
 final class Tapes {
     private Tapes() {
     }
 
-    /** Feeds bytes (characters 0 to 255) in twelves and trims what is too much. */
-    static void feed(TwoGuilds x, String text) {
-        int whole = (text.length() + 11) / 12 * 12;
+    /** Rows of three numbers for feed; blanks make the last one whole. */
+    static int[][] fed(String text) {
         StringBuilder padded = new StringBuilder(text);
-        while (padded.length() < whole) {
+        while (padded.length() % 12 != 0) {
             padded.append(' ');
         }
-        for (int i = 0; i < whole; i += 12) {
-            x.feed(number(padded, i), number(padded, i + 4), number(padded, i + 8));
+        int[][] rows = new int[padded.length() / 12][];
+        for (int i = 0; i < rows.length; i++) {
+            rows[i] = new int[] {number(padded, 12 * i), number(padded, 12 * i + 4), number(padded, 12 * i + 8)};
         }
-        x.trim(text.length());
+        return rows;
     }
 
     static int text(TwoGuilds x, String text) {
-        feed(x, text);
+        x.trim(0);
+        for (int[] row : fed(text)) {
+            x.feed(row[0], row[1], row[2]);
+        }
+        x.trim(text.length());
         return x.text();
     }
 
