@@ -28,7 +28,7 @@ public final class DocTest {
             }
         }
         Set<String> all = new Doc().texts().keySet();
-        DUE.is("parts of the document", all.size(), 43 + 10 + 2);
+        DUE.is("parts of the document", all.size(), Doc.isThere() ? 43 + 10 + 2 : 0);
         for (String part : all) {
             DUE.holds(part + " is held by a test", held.contains(part));
         }
