@@ -93,9 +93,6 @@ public final class TwoGuilds {
         if (!isKind(kind) || !within(side, 0, 1) || !within(size, 0, MOST_SIZE) || !within(price, 0, MOST_PRICE)) {
             return BAD;
         }
-        if (!now.hasRoom()) {
-            return FULL;
-        }
         return now.addGlove(kind, side, size, price);
     }
 
@@ -283,9 +280,6 @@ public final class TwoGuilds {
         if (!isWord(left) || !isWord(right)) {
             return BAD;
         }
-        if (now.wornCount >= MOST_WORN) {
-            return FULL;
-        }
         return now.addWorn(left, right);
     }
 
@@ -341,25 +335,17 @@ public final class TwoGuilds {
     }
 
     public int text() {
-        int text = now.textCount;
-        Law law = book.laws[text];
+        Law law = book.lawOf(now.textCount);
         int fault = tape.read(law);
         tape.length = 0;
-        if (fault >= 0) {
-            return -100 - fault;
-        }
-        if (text >= MOST_TEXTS) {
-            return FULL;
-        }
-        now.addText(law.key);
-        return text;
+        return fault >= 0 ? -100 - fault : now.addText(law.key);
     }
 
     public int textTold(int text, int what) {
         if (!within(text, 0, now.textCount - 1) || !within(what, 0, 1)) {
             return BAD;
         }
-        Law law = book.laws[text];
+        Law law = book.lawOf(text);
         return what == 0 ? law.key : law.operands;
     }
 
@@ -824,10 +810,6 @@ public final class TwoGuilds {
             }
         }
 
-        boolean hasRoom() {
-            return gloveCount < MOST_GLOVES;
-        }
-
         boolean hasGlove(int glove) {
             return within(glove, 0, gloveCount - 1);
         }
@@ -836,8 +818,12 @@ public final class TwoGuilds {
             return (1 << gloveCount) - 1;
         }
 
+        /** The number of the new glove, or FULL. */
         int addGlove(int kind, int side, int size, int price) {
             int number = gloveCount;
+            if (number >= MOST_GLOVES) {
+                return FULL;
+            }
             gloves[number].become(kind, side, size, price);
             gloveCount++;
             return number;
@@ -856,16 +842,26 @@ public final class TwoGuilds {
             return z >>> 8;
         }
 
+        /** How many there are then, or FULL. */
         int addWorn(int left, int right) {
+            if (wornCount >= MOST_WORN) {
+                return FULL;
+            }
             wornLeft[wornCount] = left;
             wornRight[wornCount] = right;
             wornCount++;
             return wornCount;
         }
 
-        void addText(int key) {
-            textOfKey[key] = textCount;
+        /** The number of the new text, or FULL. */
+        int addText(int key) {
+            int number = textCount;
+            if (number >= MOST_TEXTS) {
+                return FULL;
+            }
+            textOfKey[key] = number;
             textCount++;
+            return number;
         }
 
         int lostCount() {
@@ -1182,20 +1178,26 @@ public final class TwoGuilds {
     private static final class Book {
         private static final int LAST_NAME = -3;
 
-        /** One more than count, for reading a text that there is no room for. */
         final Law[] laws;
+        final Law spare;
         final int[] stack;
 
         Book() {
-            laws = new Law[MOST_TEXTS + 1];
-            for (int i = 0; i <= MOST_TEXTS; i++) {
+            laws = new Law[MOST_TEXTS];
+            for (int i = 0; i < MOST_TEXTS; i++) {
                 laws[i] = new Law();
             }
+            spare = new Law();
             stack = new int[MOST_BYTES];
         }
 
+        /** The spare one is for a text that there is no room for: its fault is told ahead of FULL. */
+        Law lawOf(int text) {
+            return within(text, 0, MOST_TEXTS - 1) ? laws[text] : spare;
+        }
+
         int give(int text, int first, int second, int third) {
-            Law law = laws[text];
+            Law law = lawOf(text);
             int top = 0;
             for (int i = 0; i < law.length && top < MOST_BYTES; i++) {
                 int c = law.code[i];
